@@ -96,13 +96,16 @@ public final class LoanDesk {
             case COUNT_POINTS:
                 return graph.size();
             case COUNT_REACHED:
-                return countReached();
+                findWays();
+                return reach.countPoints();
             case COUNT_MEETING:
-                return countMeeting();
+                findMeetings();
+                return meetings.countPoints();
             case FIRST_MEETING:
-                return firstMeeting();
+                findMeetings();
+                return meetings.firstPoint();
             case COUNT_LOANS:
-                return countLoans();
+                return graph.countLoans();
             default:
                 return NONE;
         }
@@ -196,48 +199,6 @@ public final class LoanDesk {
         }
     }
 
-    private int countReached() {
-        findWays();
-        int found = 0;
-        for (int point = 0; point < graph.size(); point++) {
-            if (reach.comesTo(point)) {
-                found++;
-            }
-        }
-        return found;
-    }
-
-    private int countMeeting() {
-        findMeetings();
-        int found = 0;
-        for (int point = 0; point < graph.size(); point++) {
-            if (meetings.isAnyAt(point)) {
-                found++;
-            }
-        }
-        return found;
-    }
-
-    private int firstMeeting() {
-        findMeetings();
-        for (int point = 0; point < graph.size(); point++) {
-            if (meetings.isAnyAt(point)) {
-                return point;
-            }
-        }
-        return NONE;
-    }
-
-    private int countLoans() {
-        int found = 0;
-        for (int point = 0; point < graph.size(); point++) {
-            if (graph.isLoan(point)) {
-                found++;
-            }
-        }
-        return found;
-    }
-
     /** The points, their doings and what can come next to them. */
     private static final class Graph {
         private final int[] doings = new int[MOST_POINTS];
@@ -257,11 +218,21 @@ public final class LoanDesk {
         }
 
         boolean isPoint(int number) {
-            return isIndex(number) && number < size;
+            return number >= 0 && number < size && number < MOST_POINTS;
         }
 
         boolean isLoan(int number) {
             return isPoint(number) && doings[number] == BORROW;
+        }
+
+        int countLoans() {
+            int found = 0;
+            for (int point = 0; point < size; point++) {
+                if (isLoan(point)) {
+                    found++;
+                }
+            }
+            return found;
         }
 
         int add(int doing, int a, int b, int c) {
@@ -412,6 +383,14 @@ public final class LoanDesk {
             return isIndex(point) && reached[point] == 1;
         }
 
+        int countPoints() {
+            int found = 0;
+            for (int point = 0; point < MOST_POINTS; point++) {
+                found += reached[point];
+            }
+            return found;
+        }
+
         void find(Graph graph) {
             Arrays.fill(reached, 0);
             arrive(graph, 0);
@@ -451,26 +430,16 @@ public final class LoanDesk {
         private boolean growAll(Graph graph) {
             boolean grown = false;
             // From the last point down, since most ways go up and uses are seen from ahead of them.
-            for (int point = graph.size() - 1; point >= 0; point--) {
-                if (growAt(graph, point)) {
+            for (int point = Math.min(graph.size(), MOST_POINTS) - 1; point >= 0; point--) {
+                int x = graph.firstNext(point);
+                int y = graph.secondNext(point);
+                int more = later[point] | graph.usedFrom(x, behind(x)) | graph.usedFrom(y, behind(y));
+                if (more != later[point]) {
+                    later[point] = more;
                     grown = true;
                 }
             }
             return grown;
-        }
-
-        private boolean growAt(Graph graph, int point) {
-            int before = behind(point);
-            int after = before | usedFrom(graph, graph.firstNext(point)) | usedFrom(graph, graph.secondNext(point));
-            if (after == before || !isIndex(point)) {
-                return false;
-            }
-            later[point] = after;
-            return true;
-        }
-
-        private int usedFrom(Graph graph, int point) {
-            return graph.usedFrom(point, behind(point));
         }
     }
 
@@ -533,8 +502,23 @@ public final class LoanDesk {
             }
         }
 
-        boolean isAnyAt(int point) {
-            return isIndex(point) && (words[2 * point] | words[2 * point + 1]) != 0L;
+        int countPoints() {
+            int found = 0;
+            for (int point = 0; point < MOST_POINTS; point++) {
+                if (isAnyAt(point)) {
+                    found++;
+                }
+            }
+            return found;
+        }
+
+        int firstPoint() {
+            for (int point = 0; point < MOST_POINTS; point++) {
+                if (isAnyAt(point)) {
+                    return point;
+                }
+            }
+            return NONE;
         }
 
         int leastAbove(int point, int after) {
@@ -544,6 +528,10 @@ public final class LoanDesk {
                 }
             }
             return NONE;
+        }
+
+        private boolean isAnyAt(int point) {
+            return isIndex(point) && (words[2 * point] | words[2 * point + 1]) != 0L;
         }
 
         private boolean isAt(int point, int loan) {

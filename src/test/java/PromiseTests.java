@@ -144,6 +144,10 @@ public final class PromiseTests {
         due("the loan is alive up to the last but one", desk.isAlive(118, 0), true);
         due("none is used behind the last", desk.used(119), 0);
         due("none is at 120", desk.isReached(120), false);
+        due("all 120 are reached", desk.count(1), 120);
+        due("the last goes back", desk.next(119, 5, -1), true);
+        due("the first goes nowhere", desk.next(0, -1, -1), true);
+        due("nothing is left of the ways before", desk.count(1), 1);
     }
 
     private static void promise2Next() {
