@@ -25,6 +25,77 @@ public final class OracleTests {
         }
     }
 
+    /** Objects that are told the same, each used for 512 calls at most, since what later calls answer is free. */
+    private static final class Desk {
+        private static final int MOST_CALLS = 512;
+
+        private final List<int[]> told = new ArrayList<>();
+        private LoanDesk desk = new LoanDesk();
+        private int calls = 0;
+
+        private LoanDesk called() {
+            if (calls == MOST_CALLS) {
+                renew();
+            }
+            calls++;
+            return desk;
+        }
+
+        private void renew() {
+            desk = new LoanDesk();
+            calls = told.size();
+            for (int[] row : told) {
+                if (row.length == 4) {
+                    desk.point(row[0], row[1], row[2], row[3]);
+                } else {
+                    desk.next(row[0], row[1], row[2]);
+                }
+            }
+        }
+
+        int point(int doing, int a, int b, int c) {
+            int number = called().point(doing, a, b, c);
+            told.add(new int[] {doing, a, b, c});
+            return number;
+        }
+
+        boolean next(int point, int x, int y) {
+            boolean taken = called().next(point, x, y);
+            told.add(new int[] {point, x, y});
+            return taken;
+        }
+
+        int clear() {
+            int before = called().clear();
+            told.clear();
+            return before;
+        }
+
+        boolean isReached(int point) {
+            return called().isReached(point);
+        }
+
+        int holders(int point, int loan) {
+            return called().holders(point, loan);
+        }
+
+        int used(int point) {
+            return called().used(point);
+        }
+
+        boolean isAlive(int point, int loan) {
+            return called().isAlive(point, loan);
+        }
+
+        int met(int point, int after) {
+            return called().met(point, after);
+        }
+
+        int count(int what) {
+            return called().count(what);
+        }
+    }
+
     /** One point as the document tells it. */
     private static final class Spot {
         final int doing;
@@ -277,7 +348,7 @@ public final class OracleTests {
         return dice.below(60) == 0 ? 16 - 17 * dice.below(2) : dice.below(references);
     }
 
-    private static void addPoint(String run, Dice dice, LoanDesk desk, Oracle oracle, int references) {
+    private static void addPoint(String run, Dice dice, Desk desk, Oracle oracle, int references) {
         int doing = dice.below(50) == 0 ? 7 - 8 * dice.below(2) : dice.below(4) == 0 ? 1 : dice.below(7);
         int a = reference(dice, references);
         int b = doing == 2 ? reference(dice, references) : place(dice);
@@ -285,7 +356,7 @@ public final class OracleTests {
         due(run + "point", desk.point(doing, a, b, c), oracle.point(doing, a, b, c));
     }
 
-    private static void tellNext(String run, Dice dice, LoanDesk desk, Oracle oracle) {
+    private static void tellNext(String run, Dice dice, Desk desk, Oracle oracle) {
         int size = oracle.spots.size();
         int point = dice.below(size + 2) - (dice.below(20) == 0 ? 1 : 0);
         int x = dice.below(3) == 0 ? dice.below(size + 4) - 2 : Math.min(119, point + 1);
@@ -293,7 +364,7 @@ public final class OracleTests {
         due(run + "next", desk.next(point, x, y), oracle.next(point, x, y));
     }
 
-    private static void ask(String run, Dice dice, LoanDesk desk, Oracle oracle) {
+    private static void ask(String run, Dice dice, Desk desk, Oracle oracle) {
         int size = oracle.spots.size();
         int point = dice.below(size + 2) - 1;
         int other = dice.below(size + 3) - 2;
@@ -310,7 +381,7 @@ public final class OracleTests {
         }
     }
 
-    private static void askAll(String run, LoanDesk desk, Oracle oracle) {
+    private static void askAll(String run, Desk desk, Oracle oracle) {
         int size = oracle.spots.size();
         for (int what = -1; what <= 5; what++) {
             due(run + "count(" + what + ")", desk.count(what), oracle.count(what));
@@ -328,7 +399,7 @@ public final class OracleTests {
 
     private static void smallGraph(int seed) {
         Dice dice = new Dice(seed);
-        LoanDesk desk = new LoanDesk();
+        Desk desk = new Desk();
         Oracle oracle = new Oracle();
         String run = "small graph " + seed + ": ";
         int references = 1 + dice.below(4);
@@ -352,7 +423,7 @@ public final class OracleTests {
     /** Up to the last point and the last reference, with few forks, so that the ways can still be walked. */
     private static void largeGraph(int seed) {
         Dice dice = new Dice(1000000 + seed);
-        LoanDesk desk = new LoanDesk();
+        Desk desk = new Desk();
         Oracle oracle = new Oracle();
         String run = "large graph " + seed + ": ";
         for (int i = 0; i < 130; i++) {
@@ -366,7 +437,46 @@ public final class OracleTests {
         askAll(run, desk, oracle);
     }
 
+    private static final int[] EDGES = {Integer.MIN_VALUE, Integer.MIN_VALUE + 1, -65536, -2, -1, 0, 1, 2, 3, 4, 5, 6, 7, 9, 10, 11, 15, 16, 31, 32,
+        99, 100, 111, 118, 119, 120, 121, 999, 1000, 1111, 9999, 10000, 11111, 65536, Integer.MAX_VALUE - 1, Integer.MAX_VALUE};
+
+    private static int edge(Dice dice) {
+        return dice.below(3) == 0 ? EDGES[dice.below(EDGES.length)] : dice.below(8);
+    }
+
+    /** Any call in any state with any arguments, those at the edges above all. */
+    private static void wildCalls(int seed) {
+        Dice dice = new Dice(2000000 + seed);
+        Desk desk = new Desk();
+        Oracle oracle = new Oracle();
+        String run = "wild calls " + seed + ": ";
+        for (int i = 0; i < 300; i++) {
+            int p = edge(dice);
+            int q = edge(dice);
+            int r = edge(dice);
+            int s = edge(dice);
+            switch (dice.below(12)) {
+                case 0, 1, 2 -> due(run + "point", desk.point(p, q, r, s), oracle.point(p, q, r, s));
+                case 3, 4 -> due(run + "next", desk.next(p, q, r), oracle.next(p, q, r));
+                case 5 -> due(run + "isReached(" + p + ")", desk.isReached(p), oracle.isReached(p));
+                case 6 -> due(run + "holders(" + p + ", " + q + ")", desk.holders(p, q), oracle.holders(p, q));
+                case 7 -> due(run + "used(" + p + ")", desk.used(p), oracle.used(p));
+                case 8 -> due(run + "isAlive(" + p + ", " + q + ")", desk.isAlive(p, q), oracle.isAlive(p, q));
+                case 9 -> due(run + "met(" + p + ", " + q + ")", desk.met(p, q), oracle.met(p, q));
+                case 10 -> due(run + "count(" + p + ")", desk.count(p), oracle.count(p));
+                default -> {
+                    if (dice.below(5) == 0) {
+                        due(run + "clear", desk.clear(), oracle.clear());
+                    }
+                }
+            }
+        }
+    }
+
     public static void main(String[] args) {
+        for (int seed = 0; seed < 400; seed++) {
+            wildCalls(seed);
+        }
         for (int seed = 0; seed < 4000; seed++) {
             smallGraph(seed);
         }
